@@ -646,7 +646,10 @@ public final class RainReservoir {
             }
         }
 
-        /** Each pass satisfies a user or ends with nothing left, so there are few. */
+        /**
+         * A demand can take a thousand rounds, so those that there is water for are done at once,
+         * and the next one by itself. Each pass satisfies a user or ends with nothing left.
+         */
         private void shareInRounds(int available) {
             int left = available;
             for (int pass = 0; pass <= count && left > 0; pass++) {
@@ -657,18 +660,15 @@ public final class RainReservoir {
             }
         }
 
-        /** How many rounds give each user who lacks water a whole portion. */
+        /** How many rounds there is water for, if all who lack some now took whole portions. */
         private int fullRounds(int left) {
             int portions = 0;
-            int rounds = left;
             for (int i = 0; i < count; i++) {
-                int portion = rows[i].portion();
-                if (rows[i].lack() > 0 && portion > 0) {
-                    portions += portion;
-                    rounds = Math.min(rounds, rows[i].lack() / portion);
+                if (rows[i].lack() > 0) {
+                    portions += rows[i].portion();
                 }
             }
-            return portions > 0 ? Math.min(rounds, left / portions) : 0;
+            return portions > 0 ? left / portions : 0;
         }
 
         private int giveRounds(int rounds) {

@@ -18,6 +18,7 @@ final class DaysTest {
         byOrder();
         inRounds();
         smallestFirst();
+        oneRuleAfterAnother();
         noUsers();
         restart();
         day();
@@ -203,6 +204,32 @@ final class DaysTest {
         checks.dueRow("enough", shares(3, 15, new int[] {5, 4, 3, 2, 1}, weights), 5, 4, 3, 2, 1);
     }
 
+    /** A rule leaves nothing behind that another one could meet. */
+    private void oneRuleAfterAnother() {
+        RainReservoir x = Rows.literARain();
+        int[] demands = {50, 20, 50, 10, 40};
+        for (int i = 0; i < demands.length; i++) {
+            x.addUser(demands[i], i + 1);
+        }
+        x.addRain(95, 6);
+        x.setWays(0, 3, 3);
+        x.run(1);
+        checks.dueRow("rule 3", Rows.latest(x), 25, 20, 0, 10, 40);
+        x.setWays(0, 3, 1);
+        x.run(1);
+        checks.dueRow("rule 1", Rows.latest(x), 50, 20, 25, 0, 0);
+        x.setDemand(1, 60);
+        x.setWays(0, 3, 3);
+        x.run(2);
+        checks.dueRow("rule 3 twice", Rows.latest(x), 45, 0, 0, 10, 40);
+        x.setWays(0, 3, 2);
+        x.run(1);
+        checks.dueRow("rule 2", Rows.latest(x), 10, 20, 30, 10, 25);
+        x.setWays(0, 3, 0);
+        x.run(1);
+        checks.dueRow("rule 0", Rows.latest(x), 23, 28, 22, 4, 18);
+    }
+
     private void noUsers() {
         RainReservoir x = new RainReservoir();
         x.addRain(5, 2);
@@ -322,6 +349,11 @@ final class DaysTest {
         checks.due("6 days", x.longestShortage(), 3);
         x.run(2);
         checks.due("8 days", x.longestShortage(), 3);
+        x.restart();
+        checks.due("after restart", x.longestShortage(), 0);
+        x.setDemand(0, 0);
+        x.run(1);
+        checks.due("1 day that is not short", x.longestShortage(), 0);
         RainReservoir y = shortOn("10x5;");
         y.run(5);
         checks.due("no short day", y.longestShortage(), 0);

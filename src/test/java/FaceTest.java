@@ -115,8 +115,6 @@ final class FaceTest {
         for (String word : FORBIDDEN) {
             checks.hold(!text.contains(word), "the source has " + word);
         }
-        for (int i = 0; i < text.length(); i++) {
-            checks.hold(text.charAt(i) < 128, "the source has a sign above 127 at " + i);
-        }
+        checks.hold(text.chars().allMatch(sign -> sign < 128), "the source has a sign above 127");
     }
 }

@@ -281,6 +281,9 @@ final class SetUpTest {
         checks.dueState(x, "addRandomRain(0, 97, 0, 1)", () -> x.addRandomRain(0, 97, 0, 1));
         checks.dueArgument(x, "addRandomRain(0, 97, 0, 0)", () -> x.addRandomRain(0, 97, 0, 0));
         checks.due("addRandomRain(5, 96, 50, 40)", x.addRandomRain(5, 96, 50, 40), 100);
+        RainReservoir y = new RainReservoir();
+        y.addRandomRain(999999, 12, 60, 200);
+        checks.dueRow("rains of 999999", Rows.rains(y), 159, 0, 183, 56, 1, 2, 80, 147, 78, 0, 141, 0);
     }
 
     private void rain() {

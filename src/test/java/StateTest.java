@@ -9,6 +9,8 @@ final class StateTest {
     void run() {
         undo();
         undoEverything();
+        undoAccounts();
+        undoOfAFullObject();
         undoOfNoChange();
         onlySuccessfulCallsSave();
         digest();
@@ -64,6 +66,57 @@ final class StateTest {
         x.append('6');
         x.undo();
         checks.due("the text, as it is not saved", x.clearText(), 3);
+    }
+
+    private void undoAccounts() {
+        RainReservoir x = Rows.literARain();
+        x.addUser(5, 1);
+        x.addRain(9, 3);
+        x.run(2);
+        x.restart();
+        x.setDemand(0, 50);
+        x.run(2);
+        checks.dueRow("day 1", Rows.day(x, 1), 0, 9, 0, 0, 0, 0, 9, 41, 0, 0);
+        x.undo();
+        x.undo();
+        checks.due("undo() of restart()", x.undo(), 1);
+        checks.dueRow("day 0", Rows.day(x, 0), 4, 9, 0, 0, 0, 0, 5, 0, 0, 0);
+        checks.dueRow("day 1", Rows.day(x, 1), 8, 9, 0, 0, 0, 0, 5, 0, 0, 0);
+        checks.dueRow("user 0", Rows.user(x, 0), 5, 1, 5, 10);
+        checks.due("longestShortage()", x.longestShortage(), 0);
+    }
+
+    /** As many roofs, users, days and bytes as there can be. */
+    private void undoOfAFullObject() {
+        RainReservoir x = new RainReservoir();
+        for (int i = 0; i < 6; i++) {
+            x.addRoof(500, 100, 999, 50000);
+        }
+        for (int i = 0; i < 5; i++) {
+            x.addUser(9999, i + 5);
+        }
+        for (int i = 0; i < 60; i++) {
+            x.append('0');
+            x.append(';');
+        }
+        x.parse();
+        x.addRain(200, 40);
+        x.setWays(100, 20, 2);
+        x.setReservoir(60000, 100, 200);
+        x.run(100);
+        checks.due("inflow", x.sum(1), 40 * 300000);
+        checks.due("diverted", x.sum(2), 6 * 999);
+        checks.due("spilled", x.sum(3), 40 * 300000 - 6 * 999);
+        checks.dueDouble("reliability()", x.reliability(), 0.4);
+        checks.due("bestRule()", x.bestRule(), 0);
+        checks.due("sustainable()", x.sustainable(), -1);
+        checks.due("capacityFor(60)", x.capacityFor(60), 56000);
+        checks.due("gutterLoss(5)", x.gutterLoss(5), 40 * 50000 - 999);
+        checks.due("restart()", x.restart(), 100);
+        checks.due("undo()", x.undo(), 3);
+        checks.due("sum of what was got after undo", x.sum(6), x.user(0, 3) + x.user(1, 3) + x.user(2, 3)
+            + x.user(3, 3) + x.user(4, 3));
+        checks.due("digest()", x.digest(), described(x, 120, 3));
     }
 
     private void undoOfNoChange() {

@@ -13,6 +13,7 @@ final class WhatIfTest {
         capacityForTheGreatest();
         bestRule();
         bestRuleOverDays();
+        eachTryBeginsEmpty();
         sustainable();
         gutterLoss();
         nothingChanges();
@@ -123,6 +124,19 @@ final class WhatIfTest {
         x.run(2);
         x.setDemand(0, 0);
         checks.due("with a demand that is now 0", x.bestRule(), 0);
+    }
+
+    /** What one try leaves in the reservoir is not there for the next. */
+    private void eachTryBeginsEmpty() {
+        RainReservoir x = twoUsers(0, 1, new int[] {10, 1}, new int[] {20, 1});
+        x.addRain(100, 1);
+        checks.due("bestRule(), water left at the end", x.bestRule(), 0);
+        checks.due("shortDaysWith(100)", x.shortDaysWith(100), 1);
+        checks.due("shortDaysWith(100) again", x.shortDaysWith(100), 1);
+        checks.due("sustainable(), a dry day first", x.sustainable(), -1);
+        RainReservoir y = twoUsers(150, 1, new int[] {60, 1}, new int[] {40, 1});
+        y.setReservoir(1000, 60, 0);
+        checks.due("sustainable(), a floor", y.sustainable(), 90);
     }
 
     private void sustainable() {
