@@ -239,14 +239,16 @@ public final class RainReservoir {
     public int shortDaysWith(int capacity) throws IllegalArgumentException {
         checkRange(capacity, LEAST_CAPACITY, MOST_CAPACITY);
         prepareTrial();
-        return triedShortDays(capacity, MOST_DAYS);
+        setTrialCapacity(capacity);
+        return trial.serveAll(MOST_DAYS);
     }
 
     public int capacityFor(int days) throws IllegalArgumentException {
         checkRange(days, 0, MOST_DAYS);
         prepareTrial();
         for (int capacity = CAPACITY_STEP; capacity <= MOST_CAPACITY; capacity += CAPACITY_STEP) {
-            if (triedShortDays(capacity, days) <= days) {
+            setTrialCapacity(capacity);
+            if (trial.serveAll(days) <= days) {
                 return capacity;
             }
         }
@@ -397,11 +399,10 @@ public final class RainReservoir {
         }
     }
 
-    private int triedShortDays(int capacity, int enough) {
+    private void setTrialCapacity(int capacity) {
         trial.capacity = capacity;
         trial.floor = Math.min(now.floor, capacity);
         trial.topUp = Math.min(now.topUp, capacity);
-        return trial.serveAll(enough);
     }
 
     private static final class Roof {
@@ -575,7 +576,8 @@ public final class RainReservoir {
             }
             int total = demandInAll();
             if (available >= total) {
-                shareInOrder(total);
+                orderByNumber();
+                serveOrder(total);
             } else {
                 share(available, total, rule);
             }
@@ -593,13 +595,15 @@ public final class RainReservoir {
                     shareByDemand(available, total);
                     break;
                 case 1:
-                    shareInOrder(available);
+                    orderByNumber();
+                    serveOrder(available);
                     break;
                 case 2:
                     shareInRounds(available);
                     break;
                 default:
-                    shareSmallestFirst(available);
+                    orderByDemand();
+                    serveOrder(available);
                     break;
             }
         }
@@ -620,14 +624,13 @@ public final class RainReservoir {
             }
         }
 
-        private void shareInOrder(int available) {
+        private void orderByNumber() {
             for (int i = 0; i < count; i++) {
                 order[i] = i;
             }
-            serveOrder(available);
         }
 
-        private void shareSmallestFirst(int available) {
+        private void orderByDemand() {
             for (int i = 0; i < count; i++) {
                 int place = i;
                 while (place > 0 && rows[order[place - 1]].demand > rows[i].demand) {
@@ -636,7 +639,6 @@ public final class RainReservoir {
                 }
                 order[place] = i;
             }
-            serveOrder(available);
         }
 
         private void serveOrder(int available) {
@@ -653,7 +655,10 @@ public final class RainReservoir {
         private void shareInRounds(int available) {
             int left = available;
             for (int pass = 0; pass <= count && left > 0; pass++) {
-                left -= giveRounds(fullRounds(left));
+                int rounds = fullRounds(left);
+                for (int i = 0; i < count; i++) {
+                    left -= rows[i].give(rounds * rows[i].portion());
+                }
                 for (int i = 0; i < count; i++) {
                     left -= rows[i].give(Math.min(left, rows[i].portion()));
                 }
@@ -669,14 +674,6 @@ public final class RainReservoir {
                 }
             }
             return portions > 0 ? left / portions : 0;
-        }
-
-        private int giveRounds(int rounds) {
-            int given = 0;
-            for (int i = 0; i < count; i++) {
-                given += rows[i].give(rounds * rows[i].portion());
-            }
-            return given;
         }
     }
 

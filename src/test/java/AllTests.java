@@ -1,4 +1,4 @@
-/** Runs all tests of the project. The argument is the path of the program's source. */
+/** Runs all tests of the project. The arguments are the paths of the program's source and the document. */
 public final class AllTests {
     public static void main(String[] args) throws Exception {
         Checks checks = new Checks();
@@ -8,6 +8,7 @@ public final class AllTests {
         new TextTest(checks).run();
         new StateTest(checks).run();
         new RandomRunsTest(checks).run();
+        new EdgesTest(checks, args[1]).run();
         new FaceTest(checks, args[0]).run();
         System.out.println(checks.passed() + " checks hold, " + checks.failed() + " do not");
         if (checks.failed() > 0 || checks.passed() == 0) {

@@ -151,57 +151,45 @@ final class DaysTest {
         checks.dueRow("day 3", Rows.day(x, 3), 80, 50, 0, 0, 30, 0, 30, 0, 10, 0);
     }
 
-    /** What each of up to five users gets of so much water by a rule. */
-    private long[] shares(int rule, int water, int[] demands, int[] weights) {
-        RainReservoir x = Rows.literARain();
-        x.setWays(0, 3, rule);
-        for (int i = 0; i < demands.length; i++) {
-            x.addUser(demands[i], weights[i]);
-        }
-        x.addRain(water, 1);
-        x.run(1);
-        return Rows.latest(x);
-    }
-
     private void proportions() {
         int[] weights = {1, 2, 9, 9, 3};
-        checks.dueRow("10 of 34", shares(0, 10, new int[] {7, 7, 0, 20}, weights), 3, 2, 0, 5);
-        checks.dueRow("3 of 5", shares(0, 3, new int[] {1, 1, 1, 1, 1}, weights), 1, 1, 1, 0, 0);
-        checks.dueRow("a user of nothing", shares(0, 3, new int[] {0, 2, 3}, weights), 0, 2, 1);
-        checks.dueRow("nothing", shares(0, 0, new int[] {5, 6}, weights), 0, 0);
-        checks.dueRow("just enough", shares(0, 11, new int[] {5, 6}, weights), 5, 6);
-        checks.dueRow("more", shares(0, 200, new int[] {5, 6}, weights), 5, 6);
+        checks.dueRow("10 of 34", Rows.shares(0, 10, new int[] {7, 7, 0, 20}, weights), 3, 2, 0, 5);
+        checks.dueRow("3 of 5", Rows.shares(0, 3, new int[] {1, 1, 1, 1, 1}, weights), 1, 1, 1, 0, 0);
+        checks.dueRow("a user of nothing", Rows.shares(0, 3, new int[] {0, 2, 3}, weights), 0, 2, 1);
+        checks.dueRow("nothing", Rows.shares(0, 0, new int[] {5, 6}, weights), 0, 0);
+        checks.dueRow("just enough", Rows.shares(0, 11, new int[] {5, 6}, weights), 5, 6);
+        checks.dueRow("more", Rows.shares(0, 200, new int[] {5, 6}, weights), 5, 6);
         checks.dueRow("200 of 49995",
-            shares(0, 200, new int[] {9999, 9999, 9999, 9999, 9999}, weights), 40, 40, 40, 40, 40);
+            Rows.shares(0, 200, new int[] {9999, 9999, 9999, 9999, 9999}, weights), 40, 40, 40, 40, 40);
     }
 
     private void byOrder() {
         int[] weights = {1, 2, 9, 9, 3};
-        checks.dueRow("95", shares(1, 95, new int[] {50, 20, 50, 10}, weights), 50, 20, 25, 0);
-        checks.dueRow("70", shares(1, 70, new int[] {50, 20, 50, 10}, weights), 50, 20, 0, 0);
-        checks.dueRow("40", shares(1, 40, new int[] {50, 20, 50, 10}, weights), 40, 0, 0, 0);
-        checks.dueRow("enough", shares(1, 130, new int[] {50, 20, 50, 10}, weights), 50, 20, 50, 10);
+        checks.dueRow("95", Rows.shares(1, 95, new int[] {50, 20, 50, 10}, weights), 50, 20, 25, 0);
+        checks.dueRow("70", Rows.shares(1, 70, new int[] {50, 20, 50, 10}, weights), 50, 20, 0, 0);
+        checks.dueRow("40", Rows.shares(1, 40, new int[] {50, 20, 50, 10}, weights), 40, 0, 0, 0);
+        checks.dueRow("enough", Rows.shares(1, 130, new int[] {50, 20, 50, 10}, weights), 50, 20, 50, 10);
     }
 
     private void inRounds() {
         int[] weights = {1, 3, 9};
-        checks.dueRow("130", shares(2, 130, new int[] {100, 100, 5}, weights), 35, 90, 5);
-        checks.dueRow("20", shares(2, 20, new int[] {100, 100, 5}, weights), 10, 10, 0);
-        checks.dueRow("40", shares(2, 40, new int[] {100, 100, 5}, weights), 10, 30, 0);
-        checks.dueRow("43", shares(2, 43, new int[] {100, 100, 5}, weights), 10, 30, 3);
-        checks.dueRow("200", shares(2, 200, new int[] {100, 100, 5}, weights), 95, 100, 5);
-        checks.dueRow("200 in many rounds", shares(2, 200, new int[] {9999, 1, 9999}, weights), 20, 1, 179);
-        checks.dueRow("nothing", shares(2, 0, new int[] {9, 0, 9}, weights), 0, 0, 0);
-        checks.dueRow("a user of nothing", shares(2, 12, new int[] {9, 0, 9}, weights), 9, 0, 3);
-        checks.dueRow("enough", shares(2, 18, new int[] {9, 0, 9}, weights), 9, 0, 9);
+        checks.dueRow("130", Rows.shares(2, 130, new int[] {100, 100, 5}, weights), 35, 90, 5);
+        checks.dueRow("20", Rows.shares(2, 20, new int[] {100, 100, 5}, weights), 10, 10, 0);
+        checks.dueRow("40", Rows.shares(2, 40, new int[] {100, 100, 5}, weights), 10, 30, 0);
+        checks.dueRow("43", Rows.shares(2, 43, new int[] {100, 100, 5}, weights), 10, 30, 3);
+        checks.dueRow("200", Rows.shares(2, 200, new int[] {100, 100, 5}, weights), 95, 100, 5);
+        checks.dueRow("200 in many rounds", Rows.shares(2, 200, new int[] {9999, 1, 9999}, weights), 20, 1, 179);
+        checks.dueRow("nothing", Rows.shares(2, 0, new int[] {9, 0, 9}, weights), 0, 0, 0);
+        checks.dueRow("a user of nothing", Rows.shares(2, 12, new int[] {9, 0, 9}, weights), 9, 0, 3);
+        checks.dueRow("enough", Rows.shares(2, 18, new int[] {9, 0, 9}, weights), 9, 0, 9);
     }
 
     private void smallestFirst() {
         int[] weights = {1, 2, 9, 9, 3};
-        checks.dueRow("95", shares(3, 95, new int[] {50, 20, 50, 10}, weights), 50, 20, 15, 10);
-        checks.dueRow("equal ones", shares(3, 7, new int[] {5, 5, 5}, weights), 5, 2, 0);
-        checks.dueRow("descending", shares(3, 7, new int[] {5, 4, 3, 2, 1}, weights), 0, 1, 3, 2, 1);
-        checks.dueRow("enough", shares(3, 15, new int[] {5, 4, 3, 2, 1}, weights), 5, 4, 3, 2, 1);
+        checks.dueRow("95", Rows.shares(3, 95, new int[] {50, 20, 50, 10}, weights), 50, 20, 15, 10);
+        checks.dueRow("equal ones", Rows.shares(3, 7, new int[] {5, 5, 5}, weights), 5, 2, 0);
+        checks.dueRow("descending", Rows.shares(3, 7, new int[] {5, 4, 3, 2, 1}, weights), 0, 1, 3, 2, 1);
+        checks.dueRow("enough", Rows.shares(3, 15, new int[] {5, 4, 3, 2, 1}, weights), 5, 4, 3, 2, 1);
     }
 
     /** A rule leaves nothing behind that another one could meet. */

@@ -68,6 +68,18 @@ final class Rows {
         return x;
     }
 
+    /** What each user gets of so much water by a rule, when there is nothing but one day's rain. */
+    static long[] shares(int rule, int water, int[] demands, int... weights) {
+        RainReservoir x = literARain();
+        x.setWays(0, 3, rule);
+        for (int i = 0; i < demands.length; i++) {
+            x.addUser(demands[i], weights[i]);
+        }
+        x.addRain(water, 1);
+        x.run(1);
+        return latest(x);
+    }
+
     static void append(RainReservoir x, String text) {
         for (int i = 0; i < text.length(); i++) {
             x.append(text.charAt(i));
