@@ -10,6 +10,7 @@ public final class AllTests {
         new RandomRunsTest(checks).run();
         new EdgesTest(checks, args[1]).run();
         new FaceTest(checks, args[0]).run();
+        new ShapeTest(checks, args[0]).run();
         System.out.println(checks.passed() + " checks hold, " + checks.failed() + " do not");
         if (checks.failed() > 0 || checks.passed() == 0) {
             System.exit(1);

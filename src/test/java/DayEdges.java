@@ -522,6 +522,23 @@ final class DayEdges {
         edges.dueRow("a demand of a portion and a liter", Rows.shares(2, 30, new int[] {11, 50}, 1, 1), 11, 19);
         edges.dueRow("a demand of a liter less", Rows.shares(2, 30, new int[] {9, 50}, 1, 1), 9, 21);
         edges.dueRow("a demand of 0", Rows.shares(2, 30, new int[] {0, 50}, 9, 1), 0, 30);
+        edges.dueRow("a demand of 1", Rows.shares(2, 20, new int[] {1, 50}, 1, 1), 1, 19);
+        edges.dueRow("a demand of 1 behind a portion", Rows.shares(2, 11, new int[] {50, 1}, 1, 1), 10, 1);
+    }
+
+    /** A day with so much water, of which each user but for one liter gets its demand. */
+    private void dueManyRounds(String told, int[] demands, int[] weights, long... got) {
+        RainReservoir x = Stands.roof(500);
+        int all = 0;
+        for (int i = 0; i < demands.length; i++) {
+            x.addUser(demands[i], weights[i]);
+            all += demands[i];
+        }
+        x.setReservoir(all - 1, 0, 0);
+        x.setWays(0, 3, 2);
+        x.addRain(200, 1);
+        edges.due("run(1) with " + told, x.run(1), 1);
+        edges.dueRow(told, Rows.latest(x), got);
     }
 
     private void roundsGoOn() {
@@ -544,6 +561,11 @@ final class DayEdges {
         // In the last of 1000 rounds the first gets 9 liters, and the second 8 of 9.
         x.run(1);
         edges.dueRow("19997 of 19998", Rows.latest(x), 9999, 9998);
+        dueManyRounds("one user", new int[] {9999}, new int[] {1}, 9998);
+        dueManyRounds("a user of nothing", new int[] {0, 9999}, new int[] {9, 1}, 0, 9998);
+        dueManyRounds("a user of much weight", new int[] {9999, 9999}, new int[] {1, 9}, 9998, 9999);
+        dueManyRounds("users who end one after the other", new int[] {9999, 10, 200, 3000, 1},
+            new int[] {1, 1, 1, 1, 9}, 9998, 10, 200, 3000, 1);
     }
 
     private void smallestFirst() {
@@ -556,5 +578,27 @@ final class DayEdges {
         edges.dueRow("a liter for the second", Rows.shares(3, 6, new int[] {6, 0, 5}, 1, 1, 1), 1, 0, 5);
         edges.dueRow("five descending", Rows.shares(3, 14, new int[] {5, 4, 3, 2, 1}, 1, 1, 1, 1, 1), 4, 4, 3, 2, 1);
         edges.dueRow("nothing", Rows.shares(3, 0, new int[] {2, 1}, 1, 1), 0, 0);
+        edges.dueRow("the middle one last", Rows.shares(3, 5, new int[] {1, 3, 2}, 1, 1, 1), 1, 2, 2);
+        edges.dueRow("the middle one first", Rows.shares(3, 5, new int[] {2, 3, 1}, 1, 1, 1), 2, 2, 1);
+        edges.dueRow("equal ones last", Rows.shares(3, 6, new int[] {1, 4, 4}, 1, 1, 1), 1, 4, 1);
+        anotherOrder();
+    }
+
+    /** The order of a day is that of the demands then, whatever it was on the day before. */
+    private void anotherOrder() {
+        RainReservoir x = Rows.literARain();
+        x.addUser(3, 1);
+        x.addUser(2, 1);
+        x.addUser(1, 1);
+        x.setWays(0, 3, 3);
+        x.addRain(5, 3);
+        x.run(1);
+        edges.dueRow("descending demands", Rows.latest(x), 2, 2, 1);
+        x.run(1);
+        edges.dueRow("the same demands again", Rows.latest(x), 2, 2, 1);
+        x.setDemand(0, 2);
+        x.setDemand(2, 4);
+        x.run(1);
+        edges.dueRow("other demands", Rows.latest(x), 2, 2, 1);
     }
 }

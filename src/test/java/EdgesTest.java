@@ -15,7 +15,10 @@ final class EdgesTest {
         new HeadEdges(edges).run();
         new DayEdges(edges).run();
         new TextEdges(edges).run();
-        new SetUpEdges(edges).run();
+        new ReservoirEdges(edges).run();
+        new RoofEdges(edges).run();
+        new UserEdges(edges).run();
+        new RainEdges(edges).run();
         new RunEdges(edges).run();
         new WhatIfEdges(edges).run();
         new StateEdges(edges).run();

@@ -28,6 +28,12 @@ final class RunEdges {
     }
 
     private void doDays() {
+        daysAreDone();
+        runUndoable();
+        runRange();
+    }
+
+    private void daysAreDone() {
         edges.sentence(13, "Does days.");
         RainReservoir x = needing10("10;11;12;");
         x.run(0);
@@ -37,10 +43,16 @@ final class RunEdges {
         x.run(2);
         edges.due("days done behind run(2)", x.setting(9), 3);
         edges.due("level", x.setting(10), 3);
+    }
+
+    private void runUndoable() {
         edges.sentence(13, "Undoable.");
         edges.undoable("run(0)", Stands::fresh, y -> y.run(0));
         edges.undoable("run(1)", Stands::midst, y -> y.run(1));
         edges.undoable("run() of 30 days", Stands::full, y -> y.run(30));
+    }
+
+    private void runRange() {
         edges.sentence(13, "`days`: 0 to 100");
         edges.due("run(0)", Stands.midst().run(0), 0);
         RainReservoir all = new RainReservoir();
@@ -72,10 +84,18 @@ final class RunEdges {
     }
 
     private void tooManyDays() {
+        runOutOfRange();
+        runBeyondTheRains();
+    }
+
+    private void runOutOfRange() {
         edges.sentence(13, "Throws `IllegalArgumentException` if days is out of range");
         edges.outside("run()", Stands::fresh, 0, 100, (y, v) -> y.run(v));
         edges.outside("run()", RunEdges::hundredDays, 0, 100, (y, v) -> y.run(v));
         edges.outside("run()", Stands::ended, 0, 100, (y, v) -> y.run(v));
+    }
+
+    private void runBeyondTheRains() {
         edges.sentence(13, "Throws `IllegalStateException` if there are not so many days of rain that are not done");
         int left = Stands.midst().setting(8) - Stands.midst().setting(9);
         RainReservoir x = Stands.midst();
@@ -91,6 +111,12 @@ final class RunEdges {
     }
 
     private void restart() {
+        goesBack();
+        restartUndoable();
+        restartAnswer();
+    }
+
+    private void goesBack() {
         edges.sentence(14, "Goes back to day 0: no day is done, the level, the dry days in a row, the diverters and "
             + "all amounts are 0 (also the overflow that belongs to no day).");
         RainReservoir x = Stands.midst();
@@ -107,10 +133,16 @@ final class RunEdges {
         edges.due("longestShortage()", x.longestShortage(), 0);
         edges.refusedIndex("day(0, 0)", RunEdges::restarted, y -> y.day(0, 0));
         sameDaysAgain();
+    }
+
+    private void restartUndoable() {
         edges.sentence(14, "Undoable.");
         edges.undoable("restart() of a new object", Stands::fresh, y -> y.restart());
         edges.undoable("restart() of all days", Stands::ended, y -> y.restart());
         edges.undoable("restart() behind restart()", RunEdges::restarted, y -> y.restart());
+    }
+
+    private void restartAnswer() {
         edges.sentence(14, "Returns the number of days that were done.");
         edges.due("restart() of a new object", new RainReservoir().restart(), 0);
         edges.due("restart() behind restart()", restarted().restart(), 0);
@@ -144,8 +176,18 @@ final class RunEdges {
     }
 
     private void day() {
+        dayReads();
+        dayNumber();
+        dayValues();
+        leastAndGreatestDay();
+    }
+
+    private void dayReads() {
         edges.sentence(15, "Returns something about a day that is done.");
         edges.unchanged("day()", Stands::midst, y -> y.day(0, 0) + y.day(9, 9));
+    }
+
+    private void dayNumber() {
         edges.sentence(15, "`day`: number of a day");
         RainReservoir x = needing10("10;11x98;13;");
         x.run(100);
@@ -153,6 +195,9 @@ final class RunEdges {
         edges.due("inflow of day 99", x.day(99, 1), 13);
         edges.refusedIndex("day(-1, 1)", Stands::midst, y -> y.day(-1, 1));
         edges.refusedIndex("day(10, 1) of 10", Stands::midst, y -> y.day(10, 1));
+    }
+
+    private void dayValues() {
         edges.sentence(15, "`what`: 0 the level at its end, 1 the inflow, 2 what the diverters took, 3 what was "
             + "spilled, 4 what overflowed, 5 what evaporated, 6 what the users got, 7 what they lacked (the sum of "
             + "the demands minus what they got), 8 the mains water, 9 what was drained from diverters");
@@ -171,6 +216,9 @@ final class RunEdges {
         edges.dueRow("day 2", Rows.day(y, 2), 300, 0, 0, 0, 0, 6, 194, 9815, 200, 200);
         edges.refusedArgument("day(0, -1)", Stands::midst, z -> z.day(0, -1));
         edges.refusedArgument("day(0, 10)", Stands::midst, z -> z.day(0, 10));
+    }
+
+    private void leastAndGreatestDay() {
         edges.sentence(15, "Returns that value.");
         RainReservoir dry = new RainReservoir();
         dry.addRain(0, 1);
@@ -198,6 +246,11 @@ final class RunEdges {
     }
 
     private void dayRefused() {
+        noSuchDay();
+        dayOutOfRange();
+    }
+
+    private void noSuchDay() {
         edges.sentence(15, "Throws `IndexOutOfBoundsException` if there is no such day, or it is not done");
         edges.outsideIndex("day()", Stands::fresh, 0, (y, v) -> y.day(v, 0));
         edges.outsideIndex("day()", Stands::midst, 10, (y, v) -> y.day(v, 0));
@@ -210,12 +263,22 @@ final class RunEdges {
             x.undo();
             return x;
         }, y -> y.day(7, 0));
+    }
+
+    private void dayOutOfRange() {
         edges.sentence(15, "Throws `IllegalArgumentException` if what is out of range");
         edges.outside("day(0, ..)", Stands::midst, 0, 9, (y, v) -> y.day(0, v));
         edges.outside("day(69, ..)", Stands::full, 0, 9, (y, v) -> y.day(69, v));
     }
 
     private void sum() {
+        sumOfAllDays();
+        sumValues();
+        greatestSums();
+        sumOutOfRange();
+    }
+
+    private void sumOfAllDays() {
         edges.sentence(16, "Returns a sum over all days done.");
         edges.unchanged("sum()", Stands::midst, y -> y.sum(1) + y.sum(9));
         edges.dueRow("sums without days", Rows.sums(new RainReservoir()), 0, 0, 0, 0, 0, 0, 0, 0, 0);
@@ -224,7 +287,12 @@ final class RunEdges {
         edges.dueRow("sums of one day", Rows.sums(x), 9, 0, 0, 0, 0, 9, 1, 0, 0);
         x.run(2);
         edges.dueRow("sums of three days", Rows.sums(x), 30, 0, 0, 0, 0, 29, 1, 0, 0);
+    }
+
+    private void sumValues() {
         edges.sentence(16, "`what`: as for day(), 1 to 9 (for 4 with the overflow that belongs to no day)");
+        RainReservoir x = needing10("9;11;10;200;");
+        x.run(3);
         x.addRoof(20, 100, 30, 3000);
         x.setReservoir(150, 0, 0);
         x.run(1);
@@ -234,6 +302,9 @@ final class RunEdges {
         edges.dueRow("sums with an overflow of no day", Rows.sums(x), 3230, 30, 970, 3091, 0, 39, 1, 0, 0);
         edges.refusedArgument("sum(0)", Stands::midst, y -> y.sum(0));
         edges.refusedArgument("sum(10)", Stands::midst, y -> y.sum(10));
+    }
+
+    private void greatestSums() {
         edges.sentence(16, "Returns that sum.");
         RainReservoir great = new RainReservoir();
         for (int i = 0; i < 6; i++) {
@@ -243,22 +314,35 @@ final class RunEdges {
         great.addRain(200, 100);
         great.run(100);
         edges.dueRow("the greatest sums", Rows.sums(great), 30000000, 0, 30000000, 29999900, 0, 0, 0, 0, 0);
+    }
+
+    private void sumOutOfRange() {
         edges.sentence(16, "Throws `IllegalArgumentException` if what is out of range");
         edges.outside("sum()", Stands::fresh, 1, 9, (y, v) -> y.sum(v));
         edges.outside("sum()", Stands::full, 1, 9, (y, v) -> y.sum(v));
     }
 
     private void reliability() {
+        shareOfDays();
+        quotient();
+        reliabilityWithoutDays();
+    }
+
+    private void shareOfDays() {
         edges.sentence(17, "Returns the share of the days done that were not short.");
         edges.unchanged("reliability()", Stands::midst, y -> (long) y.reliability());
-        RainReservoir x = needing10("9;10x98;9;");
+        RainReservoir x = needing10("9;10;");
         x.run(1);
         edges.dueDouble("a short day", x.reliability(), 0.0);
         x.run(1);
         edges.dueDouble("one of two", x.reliability(), 0.5);
+    }
+
+    private void quotient() {
         edges.sentence(17, "Returns their number, converted to double, divided by the number of days done, "
             + "converted to double;");
-        x.run(1);
+        RainReservoir x = needing10("9;10x98;9;");
+        x.run(3);
         edges.dueDouble("two of three", x.reliability(), 2.0 / 3.0);
         x.run(96);
         edges.dueDouble("98 of 99", x.reliability(), 98.0 / 99.0);
@@ -267,11 +351,16 @@ final class RunEdges {
         RainReservoir all = needing10("10x99;10;");
         all.run(100);
         edges.dueDouble("100 of 100", all.reliability(), 1.0);
+    }
+
+    private void reliabilityWithoutDays() {
         edges.sentence(17, "1.0 if no day is done.");
         edges.dueDouble("a new object", new RainReservoir().reliability(), 1.0);
         edges.dueDouble("no day of those of rain", needing10("0;").reliability(), 1.0);
-        x.restart();
-        edges.dueDouble("behind restart()", x.reliability(), 1.0);
+        RainReservoir restarted = needing10("0;");
+        restarted.run(1);
+        restarted.restart();
+        edges.dueDouble("behind restart()", restarted.reliability(), 1.0);
         RainReservoir undone = needing10("0;");
         undone.run(1);
         undone.undo();
@@ -285,6 +374,11 @@ final class RunEdges {
     }
 
     private void longestShortage() {
+        longestSequence();
+        numberOfShortDays();
+    }
+
+    private void longestSequence() {
         edges.sentence(18, "Returns the longest sequence of days done, one after the other, that were short.");
         edges.unchanged("longestShortage()", Stands::midst, y -> y.longestShortage());
         dueLongest("9x3;10;9x2;", 3);
@@ -296,6 +390,9 @@ final class RunEdges {
         edges.due("longestShortage() of the two done", x.longestShortage(), 2);
         x.run(2);
         edges.due("longestShortage() of two runs", x.longestShortage(), 4);
+    }
+
+    private void numberOfShortDays() {
         edges.sentence(18, "Returns the number of these days.");
         edges.due("longestShortage() of a new object", new RainReservoir().longestShortage(), 0);
         edges.due("longestShortage() of no day done", needing10("9;").longestShortage(), 0);

@@ -139,12 +139,20 @@ final class StateEdges {
     }
 
     private void digestOfNothing() {
+        hash();
+        textLength();
+    }
+
+    private void hash() {
         edges.sentence(28, "Returns a hash of the state.");
         edges.due("a new object", new RainReservoir().digest(), described(Stands::fresh, 0));
         edges.due("some of all", Stands.midst().digest(), described(Stands::midst, 4));
         edges.due("a full object", Stands.full().digest(), described(Stands::full, 4));
         edges.due("all days done", Stands.ended().digest(), described(Stands::ended, 4));
         edges.unchanged("digest()", Stands::midst, x -> x.digest());
+    }
+
+    private void textLength() {
         edges.sentence(28, "Start with h = 3203 and, for each of the following values v, set h = 31 * h + v: the "
             + "length of the text;");
         dueText(0);
@@ -175,14 +183,30 @@ final class StateEdges {
     }
 
     private void digestParts() {
+        settings();
+        roofs();
+        users();
+        rains();
+    }
+
+    private void settings() {
         edges.sentence(28, "setting() for 0 to 11;");
         due("with all settings", StateEdges::allSettings, 4);
+    }
+
+    private void roofs() {
         edges.sentence(28, "for each roof the values of roof() for what = 0 to 4;");
         due("of one roof with water", StateEdges::oneRoof, 3);
         due("without a roof that is undone", () -> undone(Stands.roof(7), 1), 0);
+    }
+
+    private void users() {
         edges.sentence(28, "for each user the values of user() for what = 0 to 3;");
         due("of one user", StateEdges::oneUser, 4);
         due("of a user of nothing", StateEdges::userOfNothing, 1);
+    }
+
+    private void rains() {
         edges.sentence(28, "all rains;");
         due("of one rain that is not done", StateEdges::oneRain, 1);
         due("of rains that are undone", () -> undone(oneRain(), 1), 0);
@@ -230,6 +254,12 @@ final class StateEdges {
     }
 
     private void digestOfDays() {
+        days();
+        sums();
+        savedStates();
+    }
+
+    private void days() {
         edges.sentence(28, "for each day done the values of day() for what = 0 to 9;");
         due("of a day that is undone", () -> undone(oneUser(), 1), 3);
         due("of one day without anything", StateEdges::emptyDay, 2);
@@ -239,8 +269,14 @@ final class StateEdges {
             x.restart();
             return x;
         }, 4);
+    }
+
+    private void sums() {
         edges.sentence(28, "sum() for 1 to 9;");
         due("with an overflow of no day", StateEdges::looseOverflow, 4);
+    }
+
+    private void savedStates() {
         edges.sentence(28, "the number of saved states.");
         for (int states = 0; states <= 4; states++) {
             int saved = states;

@@ -11,7 +11,7 @@ final class WhatIfEdges {
         floorAndTopUpAbove();
         capacityRange();
         capacityFor();
-        capacityForRange();
+        capacityForAnswers();
         bestRule();
         lowestRule();
         sustainable();
@@ -78,6 +78,12 @@ final class WhatIfEdges {
     }
 
     private void capacityRange() {
+        shortDaysWithRange();
+        numberOfShortDays();
+        shortDaysWithOutOfRange();
+    }
+
+    private void shortDaysWithRange() {
         edges.sentence(19, "`capacity`: 100 to 60000");
         RainReservoir x = Stands.roof(100);
         x.addUser(100, 1);
@@ -88,6 +94,9 @@ final class WhatIfEdges {
         edges.due("shortDaysWith(60000)", x.shortDaysWith(60000), 1);
         edges.refusedArgument("shortDaysWith(99)", Stands::midst, y -> y.shortDaysWith(99));
         edges.refusedArgument("shortDaysWith(60001)", Stands::midst, y -> y.shortDaysWith(60001));
+    }
+
+    private void numberOfShortDays() {
         edges.sentence(19, "Returns the number of days.");
         edges.due("without days of rain", new RainReservoir().shortDaysWith(100), 0);
         RainReservoir all = new RainReservoir();
@@ -96,6 +105,9 @@ final class WhatIfEdges {
         edges.due("all of 100 days", all.shortDaysWith(60000), 100);
         all.setDemand(0, 0);
         edges.due("none of 100 days", all.shortDaysWith(100), 0);
+    }
+
+    private void shortDaysWithOutOfRange() {
         edges.sentence(19, "Throws `IllegalArgumentException` if capacity is out of range");
         edges.outside("shortDaysWith()", Stands::fresh, 100, 60000, (y, v) -> y.shortDaysWith(v));
         edges.outside("shortDaysWith()", Stands::full, 100, 60000, (y, v) -> y.shortDaysWith(v));
@@ -111,6 +123,11 @@ final class WhatIfEdges {
     }
 
     private void capacityFor() {
+        smallestCapacity();
+        capacityForRange();
+    }
+
+    private void smallestCapacity() {
         edges.sentence(20,
             "Finds the smallest capacity with which at most so many days would be short, as by shortDaysWith().");
         dueWhenever("capacityFor(4)", WhatIfEdges::oneRain, x -> x.capacityFor(4), 500);
@@ -121,6 +138,9 @@ final class WhatIfEdges {
         dueWhenever("capacityFor(0), two days of 501", () -> twoDays(501), x -> x.capacityFor(0), 1500);
         edges.unchanged("capacityFor(0) in the midst", Stands::midst, x -> x.capacityFor(0));
         edges.unchanged("capacityFor(100) of a full object", Stands::full, x -> x.capacityFor(100));
+    }
+
+    private void capacityForRange() {
         edges.sentence(20, "`days`: 0 to 100");
         RainReservoir dry = new RainReservoir();
         dry.addUser(1, 1);
@@ -146,15 +166,27 @@ final class WhatIfEdges {
         return x;
     }
 
-    private void capacityForRange() {
+    private void capacityForAnswers() {
+        leastAndGreatestCapacity();
+        noCapacity();
+        capacityForOutOfRange();
+    }
+
+    private void leastAndGreatestCapacity() {
         edges.sentence(20, "Returns the smallest one of 500, 1000, 1500, .., 60000;");
         edges.due("capacityFor(0) without days of rain", new RainReservoir().capacityFor(0), 500);
         edges.due("capacityFor(0), two days of 250", twoDays(250).capacityFor(0), 500);
         edges.due("capacityFor(0), two days of 251", twoDays(251).capacityFor(0), 1000);
         edges.due("capacityFor(0), two days of 30000", greatDemand(3).capacityFor(0), 60000);
+    }
+
+    private void noCapacity() {
         edges.sentence(20, "NONE if there is none of these.");
         edges.due("capacityFor(0), two days of 30001", greatDemand(4).capacityFor(0), RainReservoir.NONE);
         edges.due("capacityFor(1), two days of 30001", greatDemand(4).capacityFor(1), 30500);
+    }
+
+    private void capacityForOutOfRange() {
         edges.sentence(20, "Throws `IllegalArgumentException` if days is out of range");
         edges.outside("capacityFor()", Stands::fresh, 0, 100, (y, v) -> y.capacityFor(v));
         edges.outside("capacityFor()", Stands::full, 0, 100, (y, v) -> y.capacityFor(v));
@@ -249,6 +281,11 @@ final class WhatIfEdges {
     }
 
     private void sustainableLeast() {
+        leastAndGreatestPercentage();
+        noPercentage();
+    }
+
+    private void leastAndGreatestPercentage() {
         edges.sentence(22, "Returns the percentage;");
         edges.due("of a new object", new RainReservoir().sustainable(), 300);
         edges.due("without users", Stands.roof(1).sustainable(), 300);
@@ -259,6 +296,9 @@ final class WhatIfEdges {
         edges.due("100 liters for 2000", oneDay(1, 2000).sustainable(), 5);
         edges.due("100 liters for 2019", oneDay(1, 2019).sustainable(), 5);
         edges.due("no water for 19, of which 5 percent are 0", oneDay(0, 19).sustainable(), 5);
+    }
+
+    private void noPercentage() {
         edges.sentence(22, "NONE if there is none of these.");
         edges.due("100 liters for 2020", oneDay(1, 2020).sustainable(), RainReservoir.NONE);
         edges.due("no water for 20", oneDay(0, 20).sustainable(), RainReservoir.NONE);
@@ -268,12 +308,20 @@ final class WhatIfEdges {
     }
 
     private void gutterLoss() {
+        gutterLimit();
+        gutterLossRoof();
+    }
+
+    private void gutterLimit() {
         edges.sentence(23, "Tells how much more would flow in, in all, without a roof's gutter limit.");
         edges.unchanged("gutterLoss() in the midst", Stands::midst, x -> x.gutterLoss(0));
         edges.unchanged("gutterLoss() of a full object", Stands::full, x -> x.gutterLoss(5));
         dueWhenever("gutterLoss(0)", WhatIfEdges::threeRoofs, x -> x.gutterLoss(0), 0);
         dueWhenever("gutterLoss(1)", WhatIfEdges::threeRoofs, x -> x.gutterLoss(1), 1);
         dueWhenever("gutterLoss(2)", WhatIfEdges::threeRoofs, x -> x.gutterLoss(2), 69 + 79 + 89);
+    }
+
+    private void gutterLossRoof() {
         edges.sentence(23, "`roof`: number of a roof");
         // The diverters are full before the 15 days with a rain of 200.
         edges.due("gutterLoss(0) of the first", Stands.full().gutterLoss(0), 15 * 50000);
@@ -294,6 +342,11 @@ final class WhatIfEdges {
     }
 
     private void gutterLossAmount() {
+        spilledInAllDays();
+        gutterLossWithoutRoof();
+    }
+
+    private void spilledInAllDays() {
         edges.sentence(23, "Returns the amount that is spilled at this roof in all days of rain.");
         edges.due("without days of rain", Stands.roof(500).gutterLoss(0), 0);
         RainReservoir great = new RainReservoir();
@@ -313,6 +366,9 @@ final class WhatIfEdges {
         edges.due("the amount when all days are done", drained.gutterLoss(0), drained.sum(3));
         drained.addRain(200, 1);
         edges.due("a day of rain that is not done", drained.gutterLoss(0), 12 + 195);
+    }
+
+    private void gutterLossWithoutRoof() {
         edges.sentence(23, "Throws `IndexOutOfBoundsException` if there is no such roof");
         edges.outsideIndex("gutterLoss()", Stands::fresh, 0, (y, v) -> y.gutterLoss(v));
         edges.outsideIndex("gutterLoss()", Stands::midst, 2, (y, v) -> y.gutterLoss(v));
