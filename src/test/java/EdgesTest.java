@@ -12,19 +12,28 @@ final class EdgesTest {
 
     void run() {
         Edges edges = new Edges(checks, sentences);
-        new HeadEdges(edges).run();
-        new DayEdges(edges).run();
-        new TextEdges(edges).run();
-        new ReservoirEdges(edges).run();
-        new RoofEdges(edges).run();
-        new UserEdges(edges).run();
-        new RainEdges(edges).run();
-        new RunEdges(edges).run();
-        new WhatIfEdges(edges).run();
-        new StateEdges(edges).run();
+        part(() -> new HeadEdges(edges).run());
+        part(() -> new DayEdges(edges).run());
+        part(() -> new TextEdges(edges).run());
+        part(() -> new ReservoirEdges(edges).run());
+        part(() -> new RoofEdges(edges).run());
+        part(() -> new UserEdges(edges).run());
+        part(() -> new RainEdges(edges).run());
+        part(() -> new RunEdges(edges).run());
+        part(() -> new WhatIfEdges(edges).run());
+        part(() -> new StateEdges(edges).run());
         checks.begin("the document");
         for (String sentence : sentences.withoutTest()) {
             checks.hold(false, "no test names " + sentence);
+        }
+    }
+
+    /** A call that throws where an answer is due fails the sentence that is being tested. */
+    private void part(Runnable tests) {
+        try {
+            tests.run();
+        } catch (RuntimeException e) {
+            checks.hold(false, "a call threw " + e);
         }
     }
 }

@@ -4,7 +4,7 @@ import java.util.List;
 
 /** Boundary cases of promises 27 and 28. */
 final class StateEdges {
-    private static final int DAYS_AN_OBJECT = 40;
+    private static final int DAYS_AN_OBJECT = 30;
 
     private final Edges edges;
 

@@ -116,7 +116,6 @@ final class StateTest {
         checks.due("undo()", x.undo(), 3);
         checks.due("sum of what was got after undo", x.sum(6), x.user(0, 3) + x.user(1, 3) + x.user(2, 3)
             + x.user(3, 3) + x.user(4, 3));
-        checks.due("digest()", x.digest(), described(x, 120, 3));
     }
 
     private void undoOfNoChange() {
