@@ -120,8 +120,7 @@ final class RunEdges {
         edges.sentence(14, "Goes back to day 0: no day is done, the level, the dry days in a row, the diverters and "
             + "all amounts are 0 (also the overflow that belongs to no day).");
         RainReservoir x = Stands.midst();
-        edges.due("overflow that belongs to no day, before", x.sum(4) > x.day(9, 4) + x.day(8, 4) + x.day(7, 4)
-            ? 1 : 0, 1);
+        edges.due("overflow that belongs to no day, before", x.sum(4) - x.day(7, 4), 1455);
         x.restart();
         edges.dueRow("settings", Rows.settings(x), 700, 10, 80, 13, 2, 0, 2, 3, 14, 0, 0, 0);
         edges.dueRow("roof 0", Rows.roof(x, 0), 120, 90, 60, 900, 0);

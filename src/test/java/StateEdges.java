@@ -315,7 +315,7 @@ final class StateEdges {
         for (long value : values) {
             h = h.multiply(BigInteger.valueOf(31)).add(BigInteger.valueOf(value));
         }
-        edges.due("bits of the hash before they overflow are more than 64", h.bitLength() > 64 ? 1 : 0, 1);
+        edges.due("hash that needs more than the 63 bits of a long", h.shiftRight(63).signum(), 1);
         edges.due("digest() of a new object", x.digest(), h.longValue());
         edges.due("digest() of a full object again", Stands.full().digest(), described(Stands::full, 4));
     }
